@@ -413,7 +413,7 @@ public final class GodChips {
         final int[] value = new int[WORDS];
         /** NONE if the word is not kept. */
         final int[] wordChip = new int[WORDS];
-        /** NONE if the word is lost, as is its family. */
+        /** NONE if the word is lost; its family says nothing then. */
         final int[] wordRow = new int[WORDS];
         final int[] wordFamily = new int[WORDS];
         final int[] raised = new int[WORDS];
@@ -647,7 +647,9 @@ public final class GodChips {
                 godfather[family[chip]] = NONE;
             } else {
                 for (int row = 0; row < ROWS; row++) {
-                    lost += dropWord(kept[chip * ROWS + row]);
+                    int word = kept[chip * ROWS + row];
+                    lost += loseUnlessSummed(word);
+                    letWait(word);
                 }
             }
             living &= ~(1 << chip);
@@ -671,7 +673,11 @@ public final class GodChips {
                 return loseWaiting(family[chip], row);
             }
             int word = kept[chip * ROWS + row];
-            return stoodInFor ? loseUnlessSummed(word) : dropWord(word);
+            int lost = loseUnlessSummed(word);
+            if (!stoodInFor) {
+                letWait(word);
+            }
+            return lost;
         }
 
         int putWord(int chip, int newValue) {
@@ -687,7 +693,6 @@ public final class GodChips {
             int word = words;
             words++;
             value[word] = newValue;
-            raised[word] = 0;
             keepAtLowest(word, chip);
             return word;
         }
@@ -748,14 +753,14 @@ public final class GodChips {
             }
             time += ticks;
             int before = raises;
-            boolean moved = true;
-            // A tick that raises nothing changes nothing, so nothing is raised by those behind it.
-            for (int tick = 0; tick < ticks && moved; tick++) {
-                moved = false;
+            for (int tick = 0; tick < ticks; tick++) {
+                int soFar = raises;
                 for (int home = 0; home < FAMILIES; home++) {
-                    if (queued[home] > 0 && raiseFirst(home)) {
-                        moved = true;
-                    }
+                    raiseFirst(home);
+                }
+                if (raises == soFar) {
+                    // Nothing has changed, so nothing is raised by the ticks behind this one.
+                    break;
                 }
             }
             return raises - before;
@@ -763,7 +768,11 @@ public final class GodChips {
 
         // Moves of a word
 
-        private boolean raiseFirst(int home) {
+        /** Raises the first word that waits in a family, if there is one and a place for it. */
+        private void raiseFirst(int home) {
+            if (queued[home] == 0) {
+                return;
+            }
             int word = queue[home * ROWS];
             int row = home * ROWS + wordRow[word];
             // Its own row may be the place to which it comes.
@@ -771,13 +780,12 @@ public final class GodChips {
             int chip = chipFor(home, NONE);
             if (chip == NONE) {
                 waiting[row] = word;
-                return false;
+                return;
             }
             leaveQueue(word);
             keepAtLowest(word, chip);
             raised[word]++;
             raises++;
-            return true;
         }
 
         private void keepAtLowest(int word, int chip) {
@@ -798,18 +806,16 @@ public final class GodChips {
             wordChip[word] = NONE;
         }
 
-        /** Lets a word that its chip can keep no more wait, or loses it; NONE is no word. */
-        private int dropWord(int word) {
-            int lost = loseUnlessSummed(word);
-            if (word == NONE || lost > 0) {
-                return lost;
+        /** Lets a word that its chip can keep no more wait, unless it is none or is lost by now. */
+        private void letWait(int word) {
+            if (word == NONE || wordChip[word] == NONE) {
+                return;
             }
             takeFromChip(word);
             int home = wordFamily[word];
             waiting[home * ROWS + wordRow[word]] = word;
             queue[home * ROWS + queued[home]] = word;
             queued[home]++;
-            return 0;
         }
 
         /** Loses a word that is gone from its chip if the sum of its row does not tell it. */
@@ -824,7 +830,7 @@ public final class GodChips {
                 return 0;
             }
             takeFromChip(word);
-            forget(word);
+            wordRow[word] = NONE;
             return 1 + loseWaiting(home, row);
         }
 
@@ -835,22 +841,21 @@ public final class GodChips {
             }
             waiting[home * ROWS + row] = NONE;
             leaveQueue(word);
-            forget(word);
+            wordRow[word] = NONE;
             return 1;
         }
 
         private void leaveQueue(int word) {
             int home = wordFamily[word];
             int last = queued[home] - 1;
-            for (int place = aheadOf(word); place < last; place++) {
-                queue[home * ROWS + place] = queue[home * ROWS + place + 1];
+            boolean behind = false;
+            for (int place = home * ROWS; place < home * ROWS + last; place++) {
+                behind = behind || queue[place] == word;
+                if (behind) {
+                    queue[place] = queue[place + 1];
+                }
             }
             queued[home] = last;
-        }
-
-        private void forget(int word) {
-            wordRow[word] = NONE;
-            wordFamily[word] = NONE;
         }
     }
 
@@ -863,7 +868,7 @@ public final class GodChips {
         /** Why that order is not possible, or NO_FAULT. */
         int reason;
         private int next;
-        private char letter;
+        private int letter;
         private int first;
         private int second;
 

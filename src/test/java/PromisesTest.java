@@ -488,7 +488,13 @@ public final class PromisesTest {
         due("word 1's row", x.wordOf(1, 2), 1);
         due("word 2's row", x.wordOf(2, 2), 1);
         due("chipOf(0, 3)", x.chipOf(0, 3), 0);
+        due("chipOf(0, 4)", x.chipOf(0, 4), 6);
+        due("rowOf(0, 0)", x.rowOf(0, 0), MISSING);
         due("raised by ticks", x.count(7), 0);
+        GodChips first = chips(0, 0);
+        puts(first, 1, 1);
+        first.empty(1);
+        due("to chip 0", first.wordOf(0, 1), 0);
         // Their own family first, be there ever so few places; then the others.
         GodChips y = chips(0, 0, 1, 2, 2);
         puts(y, 1, 1, 2, 3, 4, 5);
@@ -684,8 +690,9 @@ public final class PromisesTest {
         due("ahead of the last", full.wordOf(2, 4), 2);
         due("it waits in its row", full.wordOf(0, 2), 0);
         due("the time", full.count(6), 5);
-        full.carry(3, 3);
-        due("no place, no carry", full.wordOf(3, 1), 2);
+        due("carry to a full one", full.carry(3, 3), IMPOSSIBLE);
+        due("it is in the way still", full.chip(0, 0), 4);
+        due("it is in the way still", full.chipOf(4, 4), 3);
 
         // The row it waits in may be the only place, and is one only for it.
         GodChips swap = chips(0, 0, 0);
@@ -770,6 +777,7 @@ public final class PromisesTest {
         x.kill(4);
         due("loss(4, -1)", x.loss(4, -1), IMPOSSIBLE);
         due("loss(1, 4)", x.loss(1, 4), IMPOSSIBLE);
+        due("loss(3, 4) of one that would lose", x.loss(3, 4), IMPOSSIBLE);
         due("loss(4, 5)", x.loss(4, 5), INVALID);
         due("loss(4, 4)", x.loss(4, 4), INVALID);
         x.kill(1);
@@ -902,6 +910,20 @@ public final class PromisesTest {
             z.breaks(0, row);
         }
         due("2 words, no place; 3 words, 4 places", z.heir(0), 0);
+        GodChips full = chips(1, 2);
+        puts(full, 0, 1, 2, 3, 4, 5);
+        due("five words", full.heir(1), 0);
+        puts(full, 0, 6);
+        due("six words", full.heir(1), 0);
+        full.put(1, 7);
+        due("six words, five places", full.heir(1), MISSING);
+        GodChips eight = chips(1, 1, 1, 1, 1, 1, 1, 1);
+        due("eight chips", eight.heir(1), 0);
+        due("eight chips of another family", eight.heir(0), MISSING);
+        for (int chip = 0; chip < 7; chip++) {
+            eight.put(chip, chip);
+        }
+        due("the last of eight", eight.heir(1), 7);
     }
 
     private static void promise21() {
@@ -931,6 +953,21 @@ public final class PromisesTest {
         due("states", x.count(10), 4);
         due("text", x.count(11), 3);
         due("words that wait", threeWait().count(4), 3);
+        due("words lost beside those that wait", threeWait().count(5), 0);
+        due("words kept beside those that wait", threeWait().count(3), 0);
+        GodChips eight = chips(0, 0, 1, 1, 2, 2, 0, 0);
+        due("places of eight chips", eight.count(9), 48);
+        puts(eight, 0, 5);
+        due("word 0 is kept", eight.count(3), 1);
+        due("places of eight chips", eight.count(9), 47);
+        due("eight chips that live", eight.count(1), 8);
+        due("those of a family", eight.familyOf(0, 1), 1 + 2 + 64 + 128);
+        eight.elect(7);
+        due("sum by the last chip", eight.rowOf(7, 0), 5);
+        due("safe() of eight", eight.safe(), 255);
+        eight.kill(0);
+        eight.tick(1);
+        due("raised among eight", eight.wordOf(0, 1), 1);
         due("places beside words that wait", threeWait(0, 1).count(9), 3 + 6);
         GodChips y = chips(0);
         due("one state", y.count(10), 1);
@@ -1015,6 +1052,18 @@ public final class PromisesTest {
         u.undo();
         u.undo();
         due("no godfather", u.familyOf(0, 0), MISSING);
+        // How often a word was raised is undone, too.
+        GodChips r = threeWait(1);
+        r.tick(1);
+        due("raised", r.wordOf(0, 5), 1);
+        r.undo();
+        due("raised", r.wordOf(0, 5), 0);
+        due("raised", r.count(7), 0);
+        due("it waits", r.wordOf(0, 4), 0);
+        due("the last of the queue", r.wordOf(2, 4), 2);
+        r.tick(100);
+        due("raised", r.wordOf(0, 5), 1);
+        due("raised", r.count(7), 3);
     }
 
     /** The last change is undone and is seen so; then all that it changed is as it was before undo. */
@@ -1123,6 +1172,17 @@ public final class PromisesTest {
         faultOf(x, "b0,1", 0, 1);
         faultOf(x, "b0,1/", 0, 1);
         faultOf(x, "t1;;", 3, 1);
+        // A text of 60 characters that ends in the middle of an order.
+        String orders = "t1;t1;t1;t1;t1;t1;t1;t1;t1;t1;t1;t1;t1;t1;t1;t1;t1;t1;t1;";
+        faultOf(x, orders + "t11", 57, 1);
+        faultOf(x, orders + "p0,", 57, 1);
+        faultOf(x, orders.substring(3) + "t1;p0,", 57, 1);
+        faultOf(x, orders.substring(3) + "k0;b,0", 57, 1);
+        faultOf(x, orders.substring(3) + "p0,123", 54, 1);
+        faultOf(x, orders.substring(3) + "t001;k", 59, 1);
+        // Nothing of a text before is read.
+        text(x, "t12;");
+        faultOf(x, "t1", 0, 1);
         faultOf(x, "t1; t1;", 3, 1);
     }
 

@@ -19,10 +19,6 @@ public final class PromisesTest {
         }
     }
 
-    private static void is(String what, int got, int want) {
-        due(what, got, want);
-    }
-
     /** Chips without spare rows, one of each family told. */
     private static GodChips chips(int... families) {
         GodChips x = new GodChips();
@@ -86,10 +82,10 @@ public final class PromisesTest {
         GodChips y = chips(0, 1);
         due("count(0) of another", x.count(0), 0);
         due("count(0)", y.count(0), 2);
-        is("INVALID_ARGUMENT", GodChips.INVALID_ARGUMENT, INVALID);
-        is("NOT_POSSIBLE", GodChips.NOT_POSSIBLE, IMPOSSIBLE);
-        is("LIMIT_REACHED", GodChips.LIMIT_REACHED, LIMIT);
-        is("NOT_FOUND", GodChips.NOT_FOUND, MISSING);
+        due("INVALID_ARGUMENT", GodChips.INVALID_ARGUMENT, INVALID);
+        due("NOT_POSSIBLE", GodChips.NOT_POSSIBLE, IMPOSSIBLE);
+        due("LIMIT_REACHED", GodChips.LIMIT_REACHED, LIMIT);
+        due("NOT_FOUND", GodChips.NOT_FOUND, MISSING);
     }
 
     private static void promise2() {
@@ -823,7 +819,7 @@ public final class PromisesTest {
         due("two that live", x.worstTwo(0), 12);
         x.kill(1);
         due("one lives", x.worstTwo(1), MISSING);
-        // Here it matters which one dies first: first 1 then its godfather 0 loses 3 (and 2 ...).
+        // Chips 1 and 2 keep words in two rows both: more than chip 1 and its godfather lose.
         GodChips y = chips(0, 0, 0, 0);
         y.elect(0);
         puts(y, 1, 1, 2, 3);

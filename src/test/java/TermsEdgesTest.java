@@ -375,6 +375,12 @@ public final class TermsEdgesTest extends Edges {
         Counted last = waiting(3).breaking(0, 2);
         due("the last one is lost", last.familyOf(0, 6) * 10 + last.wordOf(1, 4), 1);
         due("an empty queue", waiting(1).breaking(0, 0).familyOf(0, 6), MISSING);
+        Counted moved = waiting(6, 1, 1).electing(3).ticking(6).breaking(2, 0, 5, 1);
+        due("words that waited in another family before",
+            moved.wordOf(0, 4) * 100 + moved.wordOf(5, 4) * 10 + moved.wordOf(1, 4), 12);
+        due("the second of three is lost", moved.breaks(3, 5), 1);
+        due("the first one", moved.familyOf(1, 6) * 10 + moved.wordOf(0, 4), 0);
+        due("the last one", moved.wordOf(1, 4), 1);
         Counted back = waiting(2, 0, 0).ticking(1).killing(2);
         due("a word that waits again is behind", back.wordOf(0, 4), 1);
         due("the first of the queue", back.familyOf(0, 6), 1);

@@ -2,6 +2,7 @@ import java.io.IOException;
 import java.nio.charset.StandardCharsets;
 import java.nio.file.Files;
 import java.nio.file.Path;
+import java.util.Arrays;
 
 /**
  * What the tests of the document's boundaries share: each test says which sentence of the document
@@ -19,6 +20,8 @@ abstract class Edges {
     private static final Path DOCUMENT = Path.of("..", "shared", "DOC.md");
 
     private static String[] parts;
+    /** Which characters of each part of the document stand in a sentence that is tested. */
+    private static boolean[][] tested;
     private static String sentence = "";
     private static int sentences;
     private static int checks;
@@ -39,26 +42,68 @@ abstract class Edges {
 
     /** The sentence that is tested from here on: of a promise, or of the terms if it is 0. */
     static void says(int promise, String words) {
-        if (parts == null) {
-            parts = readParts();
-        }
         sentence = (promise == 0 ? "terms" : "promise " + promise) + ": " + words;
         sentences++;
-        if (parts.length > promise && !parts[promise].contains(words)) {
-            fail("the document does not say so");
+        testedBy(promise, words);
+    }
+
+    /** Counts words of the document as those that a test is for. */
+    static void testedBy(int promise, String words) {
+        if (parts == null) {
+            readParts();
+        }
+        if (parts.length <= promise) {
+            return;
+        }
+        int at = parts[promise].indexOf(words);
+        if (at < 0) {
+            fail("the document does not say so: " + words);
+            return;
+        }
+        Arrays.fill(tested[promise], at, at + words.length(), true);
+    }
+
+    /**
+     * The terms (and what stands ahead of them), each promise, and what is not promised, without
+     * headings, code and the calls themselves; nothing if there is no document to compare with.
+     */
+    private static void readParts() {
+        parts = new String[0];
+        if (Files.exists(DOCUMENT)) {
+            String all;
+            try {
+                all = new String(Files.readAllBytes(DOCUMENT), StandardCharsets.UTF_8);
+            } catch (IOException e) {
+                throw new IllegalStateException(DOCUMENT + " can't be read", e);
+            }
+            all = all.replaceAll("(?s)```.*?```", "").replaceAll("(?m)^`[\\w ]*\\([\\w ,]*\\)`:", "");
+            parts = all.split("(?m)^## (Promise \\d+: .*|Not promised)$");
+        }
+        tested = new boolean[parts.length][];
+        for (int part = 0; part < parts.length; part++) {
+            parts[part] = parts[part].replaceAll("(?m)^#+ .*$", "").replaceAll("\\s+", " ");
+            tested[part] = new boolean[parts[part].length()];
         }
     }
 
-    /** The terms, then each promise; nothing if there is no document to compare with. */
-    private static String[] readParts() {
-        if (Files.notExists(DOCUMENT)) {
-            return new String[0];
+    /** Fails for each run of words of the document that stands in no sentence that is tested. */
+    static void everySentence() {
+        if (parts.length == 0) {
+            System.out.println("there is no document to compare with");
+        } else if (parts.length != 28) {
+            fail("the document has " + parts.length + " parts; terms, 26 promises and what is not promised are 28");
         }
-        try {
-            String all = new String(Files.readAllBytes(DOCUMENT), StandardCharsets.UTF_8);
-            return all.replaceAll("\\s+", " ").split("## Promise \\d+: ");
-        } catch (IOException e) {
-            throw new IllegalStateException(DOCUMENT + " can't be read", e);
+        for (int part = 0; part < parts.length; part++) {
+            StringBuilder left = new StringBuilder();
+            for (int at = 0; at < parts[part].length(); at++) {
+                left.append(tested[part][at] ? '\n' : parts[part].charAt(at));
+            }
+            for (String words : left.toString().split("\n+")) {
+                if (words.matches(".*\\w.*")) {
+                    sentence = "part " + part;
+                    fail("no test is for: " + words.trim());
+                }
+            }
         }
     }
 
@@ -125,16 +170,39 @@ abstract class Edges {
         }
     }
 
-    static void noSuchChip(String call, CallWith asked) {
-        refusedFor(call, Edges::rich, asked, INVALID, -1, 6, 7, 8, LEAST, MOST);
-        refusedFor(call + " without chips", Counted::new, asked, INVALID, 0, -1);
-        refusedFor(call + " of 8 chips", () -> Counted.of(0, 1, 2, 0, 1, 2, 0, 1), asked, INVALID, -1, 8, 9);
+    /** An argument that is the number of a chip: of each of eight, dead ones, too, but of no other one. */
+    static void numberOfAChip(int promise, String words, CallWith asked) {
+        says(promise, words);
+        refusedFor(words, Edges::rich, asked, INVALID, -1, 6, 7, 8, LEAST, MOST);
+        refusedFor(words + " without chips", Counted::new, asked, INVALID, 0, -1);
+        for (int dying = -1; dying < 8; dying++) {
+            int dead = dying;
+            Made eight = () -> dead < 0 ? eightChips() : eightChips().killing(dead);
+            refusedFor(words + " of 8 chips", eight, asked, INVALID, -1, 8, 9);
+            for (int chip = 0; chip < 8; chip++) {
+                int answer = asked.on(eight.now(), chip);
+                due("a chip's number is in range", answer == INVALID ? INVALID : 0, 0);
+            }
+        }
     }
 
-    static void noSuchWord(String call, CallWith asked) {
-        refusedFor(call, Edges::rich, asked, INVALID, -1, 7, 8, 23, 24, LEAST, MOST);
-        refusedFor(call + " without words", () -> Counted.of(0, 0), asked, INVALID, 0, -1);
-        refusedFor(call + " of 24 words", Edges::allWords, asked, INVALID, -1, 24, 25);
+    /** Eight chips, of which the first one keeps six words. */
+    private static Counted eightChips() {
+        return Counted.of(0, 1, 2, 0, 1, 2, 0, 1).fill(0, 6);
+    }
+
+    /** An argument that is the number of a word: of each of 24, lost ones, too, but of no other one. */
+    static void numberOfAWord(int promise, String words, CallWith asked) {
+        says(promise, words);
+        refusedFor(words, Edges::rich, asked, INVALID, -1, 7, 8, 23, 24, LEAST, MOST);
+        refusedFor(words + " without words", () -> Counted.of(0, 0), asked, INVALID, 0, -1);
+        refusedFor(words + " of 24 words", Edges::allWords, asked, INVALID, -1, 24, 25);
+        for (int word = 0; word < 24; word++) {
+            int answer = asked.on(allWords(), word);
+            due("a word's number is in range", answer == INVALID ? INVALID : 0, 0);
+            answer = asked.on(allWords().killing(0, 1, 2, 3), word);
+            due("a lost word's number is in range", answer == INVALID ? INVALID : 0, 0);
+        }
     }
 
     /**

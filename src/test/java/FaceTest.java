@@ -1,3 +1,4 @@
+import java.io.IOException;
 import java.lang.reflect.Constructor;
 import java.lang.reflect.Field;
 import java.lang.reflect.Member;
@@ -27,6 +28,8 @@ public final class FaceTest {
         "throw", "throws", "try", "catch", "finally", "synchronized", "assert", "package", "yield", "var",
         "volatile", "transient", "native", "strictfp", "default\\s+\\w+\\s*\\(", "->", "::", "@\\w+", "Thread",
         "Random", "nanoTime", "currentTimeMillis", "hashCode", "toString", "Exact\\s*\\("};
+
+    private static final Path PROGRAM = Path.of("src", "main", "java", "GodChips.java");
 
     private static int wrong;
 
@@ -92,8 +95,46 @@ public final class FaceTest {
         }
     }
 
-    private static void source() throws Exception {
-        String text = new String(Files.readAllBytes(Path.of("src/main/java/GodChips.java")), StandardCharsets.ISO_8859_1);
+    private static String textOf(Path path) throws IOException {
+        return new String(Files.readAllBytes(path), StandardCharsets.ISO_8859_1);
+    }
+
+    /** The document's face stands in the program line by line, in its order, each group of calls behind its heading. */
+    private static void document() throws IOException {
+        Path path = Path.of("..", "shared", "DOC.md");
+        if (Files.notExists(path)) {
+            System.out.println("there is no document to compare with");
+            return;
+        }
+        String document = textOf(path);
+        Matcher code = Pattern.compile("(?s)```java\n(.*?)\n```").matcher(document);
+        need(code.find(), "the document shows a face");
+        Matcher calls = Pattern.compile("Ahead of the calls (.*) the interface says: (---- .*)\\.").matcher(document);
+        List<String> lines = new ArrayList<>(Arrays.asList(code.group(1).split("\n")));
+        int headings = 0;
+        while (calls.find()) {
+            String first = calls.group(1).replaceAll("^`(\\w+)`.*$", "$1");
+            int at = 0;
+            while (at < lines.size() && !lines.get(at).startsWith("    public int " + first + "(")) {
+                at++;
+            }
+            lines.add(at, "    // " + calls.group(2));
+            headings++;
+        }
+        need(headings == 5, "the document tells five headings");
+        need(lines.size() == 32 + headings, "the document's face has 30 members");
+        String program = textOf(PROGRAM);
+        int from = 0;
+        for (String line : lines.subList(0, lines.size() - 1)) {
+            String due = line.endsWith(");") ? line.replace(");", ") {") : line;
+            int at = program.indexOf("\n" + due + "\n", from);
+            need(at >= 0, "the program has no line '" + due + "' behind the one ahead of it in the document");
+            from = Math.max(at, from);
+        }
+    }
+
+    private static void source() throws IOException {
+        String text = textOf(PROGRAM);
         need(text.chars().allMatch(sign -> sign == '\n' || sign >= 32 && sign < 127), "plain signs only");
         String code = text.replaceAll("(?s)/\\*.*?\\*/", "").replaceAll("//[^\n]*", "");
         for (String word : FORBIDDEN) {
@@ -114,7 +155,17 @@ public final class FaceTest {
         while (calls.find()) {
             need(library.contains(calls.group()), calls.group() + " is not one of the library's that are used");
         }
+        nothingIsMadeByCalls(code);
         methodsAreShort(text);
+    }
+
+    /** All calls of a run share one room, so only the constructor makes objects and rows. */
+    private static void nothingIsMadeByCalls(String code) {
+        String calls = code.substring(code.indexOf("public int chip("));
+        for (String line : calls.split("\n")) {
+            need(!line.matches(".*\\bnew\\b.*") || line.matches("        final \\w+\\[\\] \\w+ = new \\w+\\[[\\w *]+\\];"),
+                "a call makes something: " + line.trim());
+        }
     }
 
     private static void methodsAreShort(String text) {
@@ -132,8 +183,9 @@ public final class FaceTest {
         }
     }
 
-    public static void main(String[] args) throws Exception {
+    public static void main(String[] args) throws IOException {
         face();
+        document();
         source();
         System.out.println(wrong == 0 ? "the face and the rules hold" : wrong + " rules do not hold");
         if (wrong != 0) {

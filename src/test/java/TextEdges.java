@@ -1,5 +1,5 @@
 /** The boundaries of texts: what the terms say of them, and promises 23 to 26. */
-public final class TextEdgesTest extends Edges {
+final class TextEdges extends Edges {
     /** 57 characters. */
     private static final String TICKS_19 = "t1;t1;t1;t1;t1;t1;t1;t1;t1;t1;t1;t1;t1;t1;t1;t1;t1;t1;t1;";
 
@@ -47,14 +47,14 @@ public final class TextEdgesTest extends Edges {
         due("a 61st character", full.type(';'), LIMIT);
         due("play() of the same 60 characters", full.play(), 20);
         due("so many ticks", full.count(6), 40);
-        plays(TICKS_19 + "t1;", TextEdgesTest::plain, 20);
-        plays("p001,255;p001,255;p001,255;p001,255;p001,255;p001,255;t100;", TextEdgesTest::plain, 7);
-        faulty(TICKS_19 + "t11", TextEdgesTest::plain, 57, 1);
-        faulty(TICKS_19 + "b1,", TextEdgesTest::plain, 57, 1);
-        faulty(TICKS_19 + "t0;", TextEdgesTest::plain, 57, 3);
-        faulty(TICKS_19.substring(3) + "p01,02", TextEdgesTest::plain, 54, 1);
-        faulty(TICKS_19.substring(3) + "t001;k", TextEdgesTest::plain, 59, 1);
-        faulty(TICKS_19.substring(3) + "t001;;", TextEdgesTest::plain, 59, 1);
+        plays(TICKS_19 + "t1;", TextEdges::plain, 20);
+        plays("p001,255;p001,255;p001,255;p001,255;p001,255;p001,255;t100;", TextEdges::plain, 7);
+        faulty(TICKS_19 + "t11", TextEdges::plain, 57, 1);
+        faulty(TICKS_19 + "b1,", TextEdges::plain, 57, 1);
+        faulty(TICKS_19 + "t0;", TextEdges::plain, 57, 3);
+        faulty(TICKS_19.substring(3) + "p01,02", TextEdges::plain, 54, 1);
+        faulty(TICKS_19.substring(3) + "t001;k", TextEdges::plain, 59, 1);
+        faulty(TICKS_19.substring(3) + "t001;;", TextEdges::plain, 59, 1);
     }
 
     private static void orders() {
@@ -78,25 +78,25 @@ public final class TextEdgesTest extends Edges {
         due("its chip", played("p1,200;").wordOf(0, 1), 1);
         due("emptied", played("p1,200;v1;").wordOf(0, 1), 0);
         due("broken", played("b1,5;").chipOf(1, 5), 32);
-        plays("", TextEdgesTest::plain, 0);
-        plays("e0;p1,255;p01,007;b2,5;t100;v1;k002;", TextEdgesTest::plain, 7);
-        faulty("K1;", TextEdgesTest::plain, 0, 1);
-        faulty("k1;;", TextEdgesTest::plain, 3, 1);
-        faulty(";", TextEdgesTest::plain, 0, 1);
-        faulty(" ", TextEdgesTest::plain, 0, 1);
-        faulty("k", TextEdgesTest::plain, 0, 1);
-        faulty("k1", TextEdgesTest::plain, 0, 1);
-        faulty("k1 ;", TextEdgesTest::plain, 0, 1);
-        faulty("p1;", TextEdgesTest::plain, 0, 1);
-        faulty("p1,;", TextEdgesTest::plain, 0, 1);
-        faulty("p,1;", TextEdgesTest::plain, 0, 1);
-        faulty("p1,1,;", TextEdgesTest::plain, 0, 1);
-        faulty("p1,1,1;", TextEdgesTest::plain, 0, 1);
-        faulty("b1,,1;", TextEdgesTest::plain, 0, 1);
-        faulty("k1,1;", TextEdgesTest::plain, 0, 1);
-        faulty("t1,1;", TextEdgesTest::plain, 0, 1);
-        faulty("k-1;", TextEdgesTest::plain, 0, 1);
-        faulty("k+1;", TextEdgesTest::plain, 0, 1);
+        plays("", TextEdges::plain, 0);
+        plays("e0;p1,255;p01,007;b2,5;t100;v1;k002;", TextEdges::plain, 7);
+        faulty("K1;", TextEdges::plain, 0, 1);
+        faulty("k1;;", TextEdges::plain, 3, 1);
+        faulty(";", TextEdges::plain, 0, 1);
+        faulty(" ", TextEdges::plain, 0, 1);
+        faulty("k", TextEdges::plain, 0, 1);
+        faulty("k1", TextEdges::plain, 0, 1);
+        faulty("k1 ;", TextEdges::plain, 0, 1);
+        faulty("p1;", TextEdges::plain, 0, 1);
+        faulty("p1,;", TextEdges::plain, 0, 1);
+        faulty("p,1;", TextEdges::plain, 0, 1);
+        faulty("p1,1,;", TextEdges::plain, 0, 1);
+        faulty("p1,1,1;", TextEdges::plain, 0, 1);
+        faulty("b1,,1;", TextEdges::plain, 0, 1);
+        faulty("k1,1;", TextEdges::plain, 0, 1);
+        faulty("t1,1;", TextEdges::plain, 0, 1);
+        faulty("k-1;", TextEdges::plain, 0, 1);
+        faulty("k+1;", TextEdges::plain, 0, 1);
     }
 
     private static Counted played(String text) {
@@ -120,11 +120,11 @@ public final class TextEdgesTest extends Edges {
         }
         for (String fine : new String[] {"k2;", "k02;", "k002;", "t1;", "t01;", "t001;", "t99;", "t099;", "t100;",
             "p0,0;", "p00,00;", "p000,000;", "p0,9;", "p0,99;", "p0,255;", "b2,5;", "b02,05;", "b002,005;"}) {
-            plays(fine, TextEdgesTest::plain, 1);
+            plays(fine, TextEdges::plain, 1);
         }
         for (String wrong : new String[] {"k;", "k0002;", "k00002;", "t;", "t0001;", "t0100;", "t1000;", "p,0;", "p0,;",
             "p0000,0;", "p0,0000;", "p0,0255;", "b0002,5;", "b2,0005;"}) {
-            faulty(wrong, TextEdgesTest::plain, 0, 1);
+            faulty(wrong, TextEdges::plain, 0, 1);
         }
         due("three digits", played("t100;").count(6), 100);
         due("a value of three digits", played("p0,255;").read(0), 255);
@@ -135,13 +135,13 @@ public final class TextEdgesTest extends Edges {
     private static void position() {
         says(0, "The fault of the text is the position, from 0, of the first character of the first order that is not"
             + " possible;");
-        faulty("k9;k9;", TextEdgesTest::plain, 0, 2);
-        faulty("t1;k9;x", TextEdgesTest::plain, 3, 2);
-        faulty("t1;x;k9;", TextEdgesTest::plain, 3, 1);
-        faulty("t1;t0;k9;", TextEdgesTest::plain, 3, 3);
-        faulty("p0,255;p0,256;", TextEdgesTest::plain, 7, 3);
-        faulty("t100;t100;t101;", TextEdgesTest::plain, 10, 3);
-        faulty(TICKS_19 + "k3;", TextEdgesTest::plain, 57, 2);
+        faulty("k9;k9;", TextEdges::plain, 0, 2);
+        faulty("t1;k9;x", TextEdges::plain, 3, 2);
+        faulty("t1;x;k9;", TextEdges::plain, 3, 1);
+        faulty("t1;t0;k9;", TextEdges::plain, 3, 3);
+        faulty("p0,255;p0,256;", TextEdges::plain, 7, 3);
+        faulty("t100;t100;t101;", TextEdges::plain, 10, 3);
+        faulty(TICKS_19 + "k3;", TextEdges::plain, 57, 2);
     }
 
     // ---- reasons
@@ -154,23 +154,23 @@ public final class TextEdgesTest extends Edges {
         says(0, REASONS);
         for (String letter : new String[] {"k", "e", "v"}) {
             due("the last chip", reason(letter + "2;"), 0);
-            faulty(letter + "3;", TextEdgesTest::plain, 0, 2);
-            faulty(letter + "8;", TextEdgesTest::plain, 0, 2);
-            faulty(letter + "999;", TextEdgesTest::plain, 0, 2);
+            faulty(letter + "3;", TextEdges::plain, 0, 2);
+            faulty(letter + "8;", TextEdges::plain, 0, 2);
+            faulty(letter + "999;", TextEdges::plain, 0, 2);
             faulty(letter + "0;", Counted::new, 0, 2);
-            faulty(letter + "3", TextEdgesTest::plain, 0, 1);
+            faulty(letter + "3", TextEdges::plain, 0, 1);
         }
         for (String letter : new String[] {"p", "b"}) {
             due("the last chip", reason(letter + "2,0;"), 0);
-            faulty(letter + "3,0;", TextEdgesTest::plain, 0, 2);
-            faulty(letter + "999,0;", TextEdgesTest::plain, 0, 2);
-            faulty(letter + "3,999;", TextEdgesTest::plain, 0, 2);
+            faulty(letter + "3,0;", TextEdges::plain, 0, 2);
+            faulty(letter + "999,0;", TextEdges::plain, 0, 2);
+            faulty(letter + "3,999;", TextEdges::plain, 0, 2);
             faulty(letter + "0,0;", Counted::new, 0, 2);
-            faulty(letter + "3,0", TextEdgesTest::plain, 0, 1);
+            faulty(letter + "3,0", TextEdges::plain, 0, 1);
         }
         plays("t1;", Counted::new, 1);
         faulty("t999;", Counted::new, 0, 3);
-        faulty("t999;", TextEdgesTest::plain, 0, 3);
+        faulty("t999;", TextEdges::plain, 0, 3);
         Made eight = () -> Counted.of(0, 1, 2, 0, 1, 2, 0, 1);
         plays("k7;", eight, 1);
         faulty("k8;", eight, 0, 2);
@@ -180,13 +180,13 @@ public final class TextEdgesTest extends Edges {
         says(0, REASONS);
         for (String wrong : new String[] {"t0;", "t00;", "t000;", "t101;", "t999;", "p0,256;", "p0,999;", "b0,6;", "b0,06;",
             "b0,999;"}) {
-            faulty(wrong, TextEdgesTest::plain, 0, 3);
+            faulty(wrong, TextEdges::plain, 0, 3);
         }
-        plays("t1;t100;", TextEdgesTest::plain, 2);
-        plays("p0,0;p0,255;", TextEdgesTest::plain, 2);
-        plays("b0,0;b0,5;", TextEdgesTest::plain, 2);
-        faulty("t101", TextEdgesTest::plain, 0, 1);
-        faulty("p0,256", TextEdgesTest::plain, 0, 1);
+        plays("t1;t100;", TextEdges::plain, 2);
+        plays("p0,0;p0,255;", TextEdges::plain, 2);
+        plays("b0,0;b0,5;", TextEdges::plain, 2);
+        faulty("t101", TextEdges::plain, 0, 1);
+        faulty("p0,256", TextEdges::plain, 0, 1);
         Made late = () -> plain().later(99999);
         plays("t1;", late, 1);
         faulty("t2;", late, 0, 3);
@@ -221,23 +221,23 @@ public final class TextEdgesTest extends Edges {
 
     private static void behindOthers() {
         says(0, REASONS);
-        faulty("k0;k0;", TextEdgesTest::plain, 3, 3);
-        faulty("k0;e0;", TextEdgesTest::plain, 3, 3);
-        faulty("k0;v0;", TextEdgesTest::plain, 3, 3);
-        faulty("k0;p0,0;", TextEdgesTest::plain, 3, 3);
-        faulty("k0;b0,0;", TextEdgesTest::plain, 3, 3);
-        faulty("e0;e1;", TextEdgesTest::plain, 3, 3);
-        plays("e0;e2;", TextEdgesTest::plain, 2);
-        plays("e0;k0;e1;", TextEdgesTest::plain, 3);
-        faulty("e0;v0;", TextEdgesTest::plain, 3, 3);
-        faulty("e0;p0,1;", TextEdgesTest::plain, 3, 3);
-        faulty("p0,1;e0;", TextEdgesTest::plain, 5, 3);
-        plays("p0,1;v0;e0;", TextEdgesTest::plain, 3);
-        faulty("b0,3;b0,3;", TextEdgesTest::plain, 5, 3);
+        faulty("k0;k0;", TextEdges::plain, 3, 3);
+        faulty("k0;e0;", TextEdges::plain, 3, 3);
+        faulty("k0;v0;", TextEdges::plain, 3, 3);
+        faulty("k0;p0,0;", TextEdges::plain, 3, 3);
+        faulty("k0;b0,0;", TextEdges::plain, 3, 3);
+        faulty("e0;e1;", TextEdges::plain, 3, 3);
+        plays("e0;e2;", TextEdges::plain, 2);
+        plays("e0;k0;e1;", TextEdges::plain, 3);
+        faulty("e0;v0;", TextEdges::plain, 3, 3);
+        faulty("e0;p0,1;", TextEdges::plain, 3, 3);
+        faulty("p0,1;e0;", TextEdges::plain, 5, 3);
+        plays("p0,1;v0;e0;", TextEdges::plain, 3);
+        faulty("b0,3;b0,3;", TextEdges::plain, 5, 3);
         plays("b0,3;b0,3;b0,3;", () -> new Counted().adding(0, 2), 3);
         faulty("b0,3;b0,3;b0,3;b0,3;", () -> new Counted().adding(0, 2), 15, 3);
-        faulty("p0,1;k1;k2;v0;", TextEdgesTest::plain, 11, 3);
-        plays("p0,1;k1;v0;", TextEdgesTest::plain, 3);
+        faulty("p0,1;k1;k2;v0;", TextEdges::plain, 11, 3);
+        plays("p0,1;k1;v0;", TextEdges::plain, 3);
         Counted x = plain().text("k2;");
         due("no fault in this state", x.fault(0), MISSING);
         x.killing(2);
@@ -249,6 +249,17 @@ public final class TextEdgesTest extends Edges {
     // ---- promises 23 to 26
 
     private static void type() {
+        says(23, "Appends a character to the text.");
+        Counted x = rich();
+        int states = x.count(10);
+        x.type('t');
+        x.type('2');
+        due("it is no change", x.count(10), states);
+        due("not whole yet", x.fault(0), 3);
+        x.type(';');
+        due("whole", x.fault(0), MISSING);
+        due("appended", x.play() * 100 + x.count(6), 206);
+
         says(23, "`character`: 32 to 126");
         for (int each = 32; each <= 126; each++) {
             due("type(" + each + ")", new Counted().type(each), 1);
@@ -266,15 +277,6 @@ public final class TextEdgesTest extends Edges {
         refusedFor("character of a full text", full, Counted::type, LIMIT, 32, 59, 126);
         due("the 60th character", plain().text(TICKS_19 + "t1").type(';'), 60);
         due("the first character", plain().type(';'), 1);
-        Counted x = rich();
-        int states = x.count(10);
-        x.type('t');
-        x.type('2');
-        due("it is no change", x.count(10), states);
-        due("not whole yet", x.fault(0), 3);
-        x.type(';');
-        due("whole", x.fault(0), MISSING);
-        due("appended", x.play() * 100 + x.count(6), 206);
     }
 
     private static void clearText() {
@@ -284,6 +286,8 @@ public final class TextEdgesTest extends Edges {
         due("59", new Counted().text(TICKS_19 + "t1").clearText(), 59);
         due("60", new Counted().text(TICKS_19 + "t1;").clearText(), 60);
         due("0 behind it", rich().clearText() * 10 + new Counted().text("x").text("").clearText(), 30);
+
+        says(24, "Empties the text.");
         Counted x = rich();
         int states = x.count(10);
         due("clearText()", x.clearText(), 3);
@@ -294,10 +298,16 @@ public final class TextEdgesTest extends Edges {
         due("no orders", x.play(), 0);
         due("the time", x.count(6), 3);
         due("a new text", x.text("t5;").play() * 10 + x.count(6), 18);
-        changesNothing("clearText() of an empty text", TextEdgesTest::plain, Counted::clearText);
+        changesNothing("clearText() of an empty text", TextEdges::plain, Counted::clearText);
     }
 
     private static void fault() {
+        says(25, "Tells about the fault of the text.");
+        for (String text : new String[] {"", "t1;", "t1;k0;e2;p0,1;v0;b0,0;", "t1;k1;t1;k1;", "x"}) {
+            changesNothing("fault(0) of " + text, () -> plain().text(text), y -> y.fault(0));
+            changesNothing("fault(1) of " + text, () -> rich().text(text), y -> y.fault(1));
+        }
+
         says(25, "`what`: 0: its position; 1: its reason");
         due("its position", plain().text("t1;k3;").fault(0), 3);
         due("its reason", plain().text("t1;k3;").fault(1), 2);
@@ -305,10 +315,10 @@ public final class TextEdgesTest extends Edges {
         says(25, "Returns that; INVALID_ARGUMENT if what is out of range; NOT_FOUND if the text has no fault (also if it is"
             + " empty).");
         refusedFor("what, no fault", Edges::rich, Counted::fault, INVALID, -1, 2, LEAST, MOST);
-        refusedFor("what, no text", TextEdgesTest::plain, Counted::fault, INVALID, -1, 2);
+        refusedFor("what, no text", TextEdges::plain, Counted::fault, INVALID, -1, 2);
         refusedFor("what, a fault", () -> plain().text("x"), Counted::fault, INVALID, -1, 2, LEAST, MOST);
         refusedFor("what, no fault", Edges::rich, Counted::fault, MISSING, 0, 1);
-        refusedFor("what, no text", TextEdgesTest::plain, Counted::fault, MISSING, 0, 1);
+        refusedFor("what, no text", TextEdges::plain, Counted::fault, MISSING, 0, 1);
         refusedFor("what, no text and no chips", Counted::new, Counted::fault, MISSING, 0, 1);
         refusedFor("what of a text that was cleared", () -> plain().text("x").text(""), Counted::fault, MISSING, 0, 1);
         Counted x = plain().text("t1;");
@@ -323,7 +333,7 @@ public final class TextEdgesTest extends Edges {
 
     private static void play() {
         says(26, "Does all orders of the text, which stays. They are one change, also if there are none.");
-        change("play() of no text", TextEdgesTest::plain, Counted::play, 0);
+        change("play() of no text", TextEdges::plain, Counted::play, 0);
         change("play() of no text, a full history", () -> rich().text(""), Counted::play, 0);
         Counted none = new Counted();
         none.play();
@@ -343,14 +353,14 @@ public final class TextEdgesTest extends Edges {
         for (int orders = 1; orders <= 20; orders++) {
             due("orders", plain().text((TICKS_19 + "t1;").substring(0, 3 * orders)).play(), orders);
         }
-        faulty("t1;t1;t1", TextEdgesTest::plain, 6, 1);
-        faulty("p0,1;k9;", TextEdgesTest::plain, 5, 2);
-        faulty("e0;p1,9;k1;k1;", TextEdgesTest::plain, 11, 3);
+        faulty("t1;t1;t1", TextEdges::plain, 6, 1);
+        faulty("p0,1;k9;", TextEdges::plain, 5, 2);
+        faulty("e0;p1,9;k1;k1;", TextEdges::plain, 11, 3);
         faulty("p2,1;b5,5;v2;k2;v2;", Edges::rich, 16, 3);
         due("a text that has a fault when it is done again", played("k0;").play(), IMPOSSIBLE);
     }
 
-    public static void main(String[] args) {
+    static void all() {
         length();
         orders();
         numbers();
@@ -363,6 +373,5 @@ public final class TextEdgesTest extends Edges {
         clearText();
         fault();
         play();
-        end();
     }
 }

@@ -1,8 +1,8 @@
 /** The boundaries that the document's terms name, but for texts and changes: chips, rows, words, raising. */
-public final class TermsEdgesTest extends Edges {
+final class TermsEdges extends Edges {
 
     private static void lastCall() {
-        says(0, "An object is used for at most 512 calls after it has been made");
+        says(0, "An object is used for at most 512 calls after it has been made; what later calls answer is free.");
         Counted x = Counted.of(0, 0).electing(0).puts(1, 0);
         int last = 0;
         while (x.calls() < 510) {
@@ -64,6 +64,49 @@ public final class TermsEdgesTest extends Edges {
         Counted again = eightOf(0).undoing(1);
         due("the eighth chip behind undo()", again.chip(2, 0), 7);
         due("its family", again.chipOf(7, 0), 2);
+    }
+
+    private static void livesOrIsDead() {
+        says(0, "A chip lives or is dead.");
+        due("a new chip", Counted.of(0).chipOf(0, 1), 1);
+        due("one whose rows are all broken", Counted.of(0).breaking(0, 0, 1, 2, 3, 4, 5).chipOf(0, 1), 1);
+        due("a godfather", Counted.of(0).electing(0).chipOf(0, 1), 1);
+        Counted empty = Counted.of(0, 1).fill(0, 6);
+        due("empty(0)", empty.empty(0), 6);
+        due("one that was emptied", empty.chipOf(0, 1), 1);
+        // A dead chip stays dead, whatever is done behind its death but undo().
+        Counted x = Counted.of(0, 0, 0).electing(0).fill(1, 6).killing(1);
+        x.ticking(100);
+        due("behind ticks", x.chipOf(1, 1), 0);
+        x.killing(0).adding(0, 2).electing(3);
+        due("behind its godfather's death and an election", x.chipOf(1, 1), 0);
+        due("its family's chips that live", x.familyOf(0, 1), 4 + 8);
+        Counted y = Counted.of(0, 0).killing(1);
+        for (String order : new String[] {"k1;", "e1;", "v1;", "p1,0;", "b1,0;"}) {
+            due(order, y.text(order).play(), IMPOSSIBLE);
+            due("it is dead", y.chipOf(1, 1), 0);
+        }
+        due("undo()", y.undo() * 10 + y.chipOf(1, 1), 21);
+    }
+
+    private static void wholeOrBroken() {
+        says(0, "A row of a chip is whole or broken;");
+        for (int set = 0; set < 64; set++) {
+            Counted x = Counted.of(0, 0);
+            for (int row = 0; row < 6; row++) {
+                if ((set >> row & 1) == 1) {
+                    x.breaking(0, row);
+                }
+            }
+            due("the broken rows", x.chipOf(0, 5), set);
+            due("the places", x.chipOf(0, 4), 6 - Integer.bitCount(set));
+            for (int row = 0; row < 6; row++) {
+                due("row " + row, x.rowOf(0, row), (set >> row & 1) == 1 ? IMPOSSIBLE : MISSING);
+            }
+            due("the rows of another chip", x.chipOf(1, 5), 0);
+            due("guarded rows", x.elect(0), 6 - Integer.bitCount(set));
+            due("the set of them", x.familyOf(0, 4), 63 - set);
+        }
     }
 
     private static void rows() {
@@ -614,7 +657,7 @@ public final class TermsEdgesTest extends Edges {
     }
 
     private static void leavesItsRow() {
-        says(0, "it leaves its row (in which it waits no more then; places are as they are behind that)");
+        says(0, "it leaves its row (in which it waits no more then; places are as they are behind that), and");
         Counted only = Counted.of(0, 0, 0).electing(0).fill(1, 1).breaking(2, 1, 2, 3, 4, 5).killing(1);
         due("no place beside it", only.count(9), 0);
         due("but its own row", only.tick(1), 1);
@@ -671,6 +714,19 @@ public final class TermsEdgesTest extends Edges {
         due("a gap between two", gap.wordOf(3, 2), 1);
     }
 
+    private static void keptThen() {
+        says(0, "It is kept then.");
+        Counted x = waiting(1, 1).ticking(1);
+        due("wordOf(0, 0)", x.wordOf(0, 0), 0);
+        due("its chip", x.wordOf(0, 1), 2);
+        due("the chip's word", x.rowOf(2, 0), 0);
+        due("no place in the queue", x.wordOf(0, 4), MISSING);
+        due("words that are kept", x.count(3) * 10 + x.count(4), 10);
+        due("it can be written", x.write(0, 99), 10);
+        due("it can be carried", x.adding(2, 0).carry(0, 3), 0);
+        due("it can be lost again", x.kill(3), 1);
+    }
+
     /** Words 0 and 1 wait; chip 2 has no place but row 1, in which word 1 waits. */
     private static Counted firstInTheWay() {
         return waiting(2, 0).breaking(2, 0, 2, 3, 4, 5);
@@ -705,12 +761,14 @@ public final class TermsEdgesTest extends Edges {
         due("family 0 waits", free.wordOf(0, 0), 1);
     }
 
-    public static void main(String[] args) {
+    static void all() {
         lastCall();
         time();
         sets();
         chips();
+        livesOrIsDead();
         rows();
+        wholeOrBroken();
         oneWordInARow();
         places();
         oneGodfather();
@@ -732,7 +790,7 @@ public final class TermsEdgesTest extends Edges {
         oneByTick();
         leavesItsRow();
         ownFamilyFirst();
+        keptThen();
         noPlace();
-        end();
     }
 }

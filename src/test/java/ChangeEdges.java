@@ -1,5 +1,5 @@
 /** The boundaries of changes: the history and undo (promise 22), and which error comes before which. */
-public final class ChangeEdgesTest extends Edges {
+final class ChangeEdges extends Edges {
 
     private static void changes() {
         says(0, "The changes are the calls of chip, elect, put, write, carry, empty, kill, breaks, tick and play that return"
@@ -260,13 +260,12 @@ public final class ChangeEdgesTest extends Edges {
         due("the words behind undo() of " + call, x.count(4), same.count(4));
     }
 
-    public static void main(String[] args) {
+    static void all() {
         changes();
         history();
         undo();
         severalErrors();
         noSuchNumber();
         errorsChangeNothing();
-        end();
     }
 }

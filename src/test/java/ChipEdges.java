@@ -1,5 +1,5 @@
 /** The boundaries of promises 1 to 7: a new object, and the calls about chips. */
-public final class ChipEdgesTest extends Edges {
+final class ChipEdges extends Edges {
 
     private static void newObject() {
         says(1, "Creates a memory without chips, at the time 0.");
@@ -94,6 +94,8 @@ public final class ChipEdgesTest extends Edges {
     }
 
     private static void elect() {
+        numberOfAChip(3, "`chip`: number of the chip", Counted::elect);
+
         says(3, "Elects a chip: it is the godfather of its family then.");
         Counted x = Counted.of(0, 1, 1).electing(2);
         due("chipOf(2, 2)", x.chipOf(2, 2), 1);
@@ -116,7 +118,6 @@ public final class ChipEdgesTest extends Edges {
         due("another chip's rows are broken", Counted.of(0, 0).breaking(0, 0, 1).elect(1), 6);
         change("elect(3) of an emptied chip", () -> rich().adding(1, 0).carrying(4, 2).carrying(5, 2),
             y -> y.elect(3), 5);
-        noSuchChip("elect", Counted::elect);
         refused("a dead one of a family without godfather", Edges::rich, y -> y.elect(4), IMPOSSIBLE);
         refused("a dead one of a family with a godfather", Edges::rich, y -> y.elect(1), IMPOSSIBLE);
         refused("one of a family with a godfather", Edges::rich, y -> y.elect(5), IMPOSSIBLE);
@@ -130,8 +131,24 @@ public final class ChipEdgesTest extends Edges {
     }
 
     private static void kill() {
+        says(4, "Lets a chip die.");
+        for (int chip : new int[] {0, 2, 3, 5}) {
+            Counted x = rich();
+            due("it lives", x.chipOf(chip, 1), 1);
+            int living = x.familyOf(x.chipOf(chip, 0), 1);
+            x.killing(chip);
+            due("it is dead", x.chipOf(chip, 1), 0);
+            due("it is no godfather", x.chipOf(chip, 2), 0);
+            due("it keeps no words", x.chipOf(chip, 3), 0);
+            due("it has no places", x.chipOf(chip, 4), 0);
+            due("none of its rows can be told", x.rowOf(chip, 4), IMPOSSIBLE);
+            due("the others of its family live", x.familyOf(x.chipOf(chip, 0), 1), living - (1 << chip));
+            due("chips that live", x.count(1), 3);
+            due("chips", x.count(0), 6);
+        }
+        numberOfAChip(4, "`chip`: number of the chip", Counted::kill);
+
         says(4, "Returns how many words are lost by it; INVALID_ARGUMENT; NOT_POSSIBLE if it is dead.");
-        noSuchChip("kill", Counted::kill);
         refused("a dead one", Edges::rich, y -> y.kill(4), IMPOSSIBLE);
         refused("a dead one of a family with a godfather", Edges::rich, y -> y.kill(1), IMPOSSIBLE);
         refused("a dead godfather", () -> waiting(2).killing(0), y -> y.kill(0), IMPOSSIBLE);
@@ -160,6 +177,21 @@ public final class ChipEdgesTest extends Edges {
     }
 
     private static void breaks() {
+        says(5, "Lets a row of a chip break.");
+        for (int row = 0; row < 6; row++) {
+            Counted x = Counted.of(0, 0, 1).breaking(1, row);
+            for (int other = 0; other < 6; other++) {
+                due("a row of this chip", x.rowOf(1, other), other == row ? IMPOSSIBLE : MISSING);
+                due("a row of a chip of its family", x.rowOf(0, other), MISSING);
+                due("a row of another family's chip", x.rowOf(2, other), MISSING);
+            }
+            due("its broken rows", x.chipOf(1, 5), 1 << row);
+            due("its places", x.chipOf(1, 4), 5);
+            due("it lives", x.chipOf(1, 1), 1);
+            due("the places of all", x.count(9), 17);
+        }
+        numberOfAChip(5, "`chip`: number of the chip", (y, chip) -> y.breaks(chip, 0));
+
         says(5, "`row`: 0 to 5");
         for (int each = 0; each <= 5; each++) {
             int row = each;
@@ -171,7 +203,6 @@ public final class ChipEdgesTest extends Edges {
 
         says(5, "Returns how many words are lost by it; INVALID_ARGUMENT if an argument is out of range; NOT_POSSIBLE"
             + " if the chip is dead, or the row is broken.");
-        noSuchChip("breaks", (y, chip) -> y.breaks(chip, 0));
         refused("a row of a dead one", Edges::rich, y -> y.breaks(1, 0), IMPOSSIBLE);
         refused("a row of a dead one with spare rows", Edges::rich, y -> y.breaks(4, 0), IMPOSSIBLE);
         refused("no row of a dead one", Edges::rich, y -> y.breaks(4, 6), INVALID);
@@ -189,6 +220,13 @@ public final class ChipEdgesTest extends Edges {
     }
 
     private static void chipOf() {
+        says(6, "Returns something of a chip.");
+        for (int each = 0; each <= 6; each++) {
+            int what = each;
+            changesNothing("chipOf(2, " + what + ")", Edges::rich, y -> y.chipOf(2, what));
+        }
+        numberOfAChip(6, "`chip`: number of the chip", (y, chip) -> y.chipOf(chip, 1));
+
         says(6, "`what`: 0: its family; 1: 1 if it lives, otherwise 0; 2: 1 if it is a godfather, otherwise 0; 3:"
             + " the words that it keeps; 4: its places; 5: the set of its broken rows; 6: the spare rows that are left");
         int[][] due = {
@@ -212,13 +250,32 @@ public final class ChipEdgesTest extends Edges {
         due("it is kept there", Counted.of(0, 1).puts(0, 1).carrying(0, 1).chipOf(1, 3), 1);
 
         says(6, "Returns the number; INVALID_ARGUMENT if an argument is out of range.");
-        noSuchChip("chipOf", (y, chip) -> y.chipOf(chip, 1));
         refusedFor("what", Edges::rich, (y, what) -> y.chipOf(2, what), INVALID, -1, 7, LEAST, MOST);
         refusedFor("what of a dead one", Edges::rich, (y, what) -> y.chipOf(1, what), INVALID, -1, 7);
-        changesNothing("chipOf(2, 6)", Edges::rich, y -> y.chipOf(2, 6));
     }
 
     private static void rowOf() {
+        says(7, "Returns what a chip keeps in a row.");
+        Counted moved = Counted.of(0, 0).puts(0, 7, 8, 9).carrying(1, 1);
+        due("the first word", moved.rowOf(0, 0), 0);
+        due("the row of one that was carried away", moved.rowOf(0, 1), MISSING);
+        due("the third word", moved.rowOf(0, 2), 2);
+        due("the row to which it came", moved.rowOf(1, 0), 1);
+        due("empty(0)", moved.empty(0), 2);
+        due("no word", moved.rowOf(0, 0), MISSING);
+        moved.electing(0);
+        due("a sum", moved.rowOf(0, 0), 8);
+        due("the sum of the row to which the first word came", moved.rowOf(0, 1), 7);
+        numberOfAChip(7, "`chip`: number of the chip", (y, chip) -> y.rowOf(chip, 0));
+
+        says(7, "`row`: 0 to 5");
+        for (int row = 0; row <= 5; row++) {
+            due("rowOf(0, " + row + ")", Counted.of(0).fill(0, 6).rowOf(0, row), row);
+        }
+        refusedFor("row of a godfather", Edges::rich, (y, row) -> y.rowOf(0, row), INVALID, -1, 6, LEAST, MOST);
+        refusedFor("row", Edges::rich, (y, row) -> y.rowOf(2, row), INVALID, -1, 6, LEAST, MOST);
+        refusedFor("row of a dead one", Edges::rich, (y, row) -> y.rowOf(1, row), INVALID, -1, 6);
+
         says(7, "Returns the number of the word; the sum, if it is a godfather; INVALID_ARGUMENT if an argument is out"
             + " of range; NOT_POSSIBLE if the chip is dead or the row is broken; NOT_FOUND if it keeps none.");
         Counted x = rich();
@@ -234,10 +291,6 @@ public final class ChipEdgesTest extends Edges {
                 due("rowOf(" + chip + ", " + row + ")", x.rowOf(chip, row), due[chip][row]);
             }
         }
-        noSuchChip("rowOf", (y, chip) -> y.rowOf(chip, 0));
-        refusedFor("row of a godfather", Edges::rich, (y, row) -> y.rowOf(0, row), INVALID, -1, 6, LEAST, MOST);
-        refusedFor("row", Edges::rich, (y, row) -> y.rowOf(2, row), INVALID, -1, 6, LEAST, MOST);
-        refusedFor("row of a dead one", Edges::rich, (y, row) -> y.rowOf(1, row), INVALID, -1, 6);
         refused("a row of a dead one", Edges::rich, y -> y.rowOf(1, 0), IMPOSSIBLE);
         refused("a broken row", Edges::rich, y -> y.rowOf(3, 5), IMPOSSIBLE);
         refused("a broken row of a godfather", () -> rich().breaking(0, 1, 1), y -> y.rowOf(0, 1), IMPOSSIBLE);
@@ -249,7 +302,7 @@ public final class ChipEdgesTest extends Edges {
         changesNothing("rowOf(0, 0)", Edges::rich, y -> y.rowOf(0, 0));
     }
 
-    public static void main(String[] args) {
+    static void all() {
         newObject();
         constants();
         chip();
@@ -258,6 +311,5 @@ public final class ChipEdgesTest extends Edges {
         breaks();
         chipOf();
         rowOf();
-        end();
     }
 }

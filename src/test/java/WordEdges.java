@@ -1,5 +1,5 @@
 /** The boundaries of promises 8 to 13: the calls about words. */
-public final class WordEdgesTest extends Edges {
+final class WordEdges extends Edges {
 
     private static void put() {
         says(8, "Puts a new word into the lowest row of a chip that is a place for it.");
@@ -17,6 +17,8 @@ public final class WordEdgesTest extends Edges {
         due("row 0 where a word waits", waiting(1, 0).puts(2, 7).wordOf(1, 2), 1);
         due("row 0 where another family's word waits", waiting(1, 1).puts(2, 7).wordOf(1, 2), 0);
 
+        numberOfAChip(8, "`chip`: number of the chip", (y, chip) -> y.put(chip, 0));
+
         says(8, "`value`: 0 to 255");
         for (int each : new int[] {0, 1, 127, 128, 254, 255}) {
             int value = each;
@@ -27,7 +29,6 @@ public final class WordEdgesTest extends Edges {
 
         says(8, "Returns the number of the word; INVALID_ARGUMENT if an argument is out of range; NOT_POSSIBLE if the"
             + " chip is dead, is a godfather, or has no place; LIMIT_REACHED if there are 24 words.");
-        noSuchChip("put", (y, chip) -> y.put(chip, 0));
         refused("a dead one", Edges::rich, y -> y.put(1, 0), IMPOSSIBLE);
         refused("a godfather", Edges::rich, y -> y.put(0, 0), IMPOSSIBLE);
         refused("a full one", () -> rich().fill(3, 3), y -> y.put(3, 0), IMPOSSIBLE);
@@ -49,6 +50,18 @@ public final class WordEdgesTest extends Edges {
     }
 
     private static void write() {
+        says(9, "Gives a word another value.");
+        Counted of = Counted.of(0, 0, 1).puts(0, 1, 2).puts(1, 4).puts(2, 8);
+        due("write(1, 200)", of.write(1, 200), 2);
+        int[] values = {1, 200, 4, 8};
+        for (int word = 0; word < 4; word++) {
+            due("read(" + word + ")", of.read(word), values[word]);
+        }
+        due("its chip", of.wordOf(1, 1), 0);
+        due("its row", of.wordOf(1, 2), 1);
+        due("words", of.count(2), 4);
+        numberOfAWord(9, "`word`: number of the word", (y, word) -> y.write(word, 0));
+
         says(9, "`value`: 0 to 255");
         for (int each : new int[] {0, 1, 127, 128, 254, 255}) {
             int value = each;
@@ -63,7 +76,6 @@ public final class WordEdgesTest extends Edges {
 
         says(9, "Returns its value before; INVALID_ARGUMENT if an argument is out of range; NOT_POSSIBLE if it is not"
             + " kept.");
-        noSuchWord("write", (y, word) -> y.write(word, 0));
         refused("one that waits", Edges::rich, y -> y.write(0, 1), IMPOSSIBLE);
         refused("a lost one", Edges::rich, y -> y.write(6, 1), IMPOSSIBLE);
         refused("one that waits, a value out of range", Edges::rich, y -> y.write(0, 256), INVALID);
@@ -94,8 +106,9 @@ public final class WordEdgesTest extends Edges {
         due("one of the value 0 that waits", Counted.of(0, 0).electing(0).puts(1, 0).killing(1).read(0), 0);
         due("one of the value 0 that is kept", Counted.of(0).puts(0, 0).read(0), 0);
 
+        numberOfAWord(10, "`word`: number of the word", Counted::read);
+
         says(10, "Returns the value; INVALID_ARGUMENT; NOT_FOUND if it is lost.");
-        noSuchWord("read", Counted::read);
         refused("a lost one", Edges::rich, y -> y.read(6), MISSING);
         due("lost by a break", Counted.of(0).puts(0, 5).breaking(0, 0).read(0), MISSING);
         due("lost by its godfather's death", waiting(1).killing(0).read(0), MISSING);
@@ -118,12 +131,11 @@ public final class WordEdgesTest extends Edges {
         due("not to a broken row", Counted.of(0, 1).puts(0, 1).breaking(1, 0).carry(0, 1), 1);
         due("behind others of its family", Counted.of(0, 0).puts(0, 1, 2).puts(1, 3).carry(1, 1), 1);
 
+        numberOfAWord(11, "`word`: number of the word", (y, word) -> y.carry(word, 0));
+        numberOfAChip(11, "`chip`: number of the chip", (y, chip) -> y.carry(y.count(2) == 7 ? 3 : 0, chip));
+
         says(11, "Returns the row; INVALID_ARGUMENT if there is no such word or chip; NOT_POSSIBLE if the word is not"
             + " kept, or it is kept by this chip, or the chip is dead, is a godfather, or has no place.");
-        noSuchWord("carry", (y, word) -> y.carry(word, 0));
-        noSuchChip("carry", (y, chip) -> y.carry(3, chip));
-        refusedFor("carry to one of 8 chips", () -> Counted.of(0, 1, 2, 0, 1, 2, 0, 1).puts(0, 1),
-            (y, chip) -> y.carry(0, chip), INVALID, -1, 8, 9, LEAST, MOST);
         refused("one that waits", Edges::rich, y -> y.carry(0, 5), IMPOSSIBLE);
         refused("a lost one", Edges::rich, y -> y.carry(6, 5), IMPOSSIBLE);
         refused("one that is kept by this chip", Edges::rich, y -> y.carry(4, 3), IMPOSSIBLE);
@@ -177,9 +189,10 @@ public final class WordEdgesTest extends Edges {
     }
 
     private static void emptyRefused() {
+        numberOfAChip(12, "`chip`: number of the chip", Counted::empty);
+
         says(12, "Returns how many words were carried; INVALID_ARGUMENT; NOT_POSSIBLE if it is dead or a godfather, or"
             + " there is no place for one of them when its turn comes.");
-        noSuchChip("empty", Counted::empty);
         refused("a dead one", Edges::rich, y -> y.empty(1), IMPOSSIBLE);
         refused("a dead one of a family without godfather", Edges::rich, y -> y.empty(4), IMPOSSIBLE);
         refused("a godfather", Edges::rich, y -> y.empty(0), IMPOSSIBLE);
@@ -201,6 +214,16 @@ public final class WordEdgesTest extends Edges {
     }
 
     private static void wordOf() {
+        says(13, "Returns something of a word.");
+        for (int each = 0; each <= 5; each++) {
+            int what = each;
+            for (int word = 0; word < 7; word += 3) {
+                int asked = word;
+                changesNothing("wordOf(" + word + ", " + what + ")", Edges::rich, y -> y.wordOf(asked, what));
+            }
+        }
+        numberOfAWord(13, "`word`: number of the word", (y, word) -> y.wordOf(word, 0));
+
         says(13, "`what`: 0: 0 if it is kept, 1 if it waits, 2 if it is lost; 1: the chip that keeps it; 2: its row; 3:"
             + " the family to whose row it belongs; 4: how many words are ahead of it in the queue; 5: how often it was"
             + " raised by ticks so far");
@@ -235,7 +258,6 @@ public final class WordEdgesTest extends Edges {
 
         says(13, "Returns the number; INVALID_ARGUMENT if an argument is out of range; NOT_FOUND for 1 if it is not"
             + " kept, for 2 and 3 if it is lost, for 4 if it does not wait.");
-        noSuchWord("wordOf", (y, word) -> y.wordOf(word, 0));
         refusedFor("what of a kept one", Edges::rich, (y, what) -> y.wordOf(3, what), INVALID, -1, 6, LEAST, MOST);
         refusedFor("what of one that waits", Edges::rich, (y, what) -> y.wordOf(0, what), INVALID, -1, 6);
         refusedFor("what of a lost one", Edges::rich, (y, what) -> y.wordOf(6, what), INVALID, -1, 6, LEAST, MOST);
@@ -243,10 +265,9 @@ public final class WordEdgesTest extends Edges {
         refusedFor("what of one that waits", Edges::rich, (y, what) -> y.wordOf(1, what), MISSING, 1);
         refusedFor("what of a lost one", Edges::rich, (y, what) -> y.wordOf(6, what), MISSING, 1, 2, 3, 4);
         refusedFor("what of a kept one", Edges::rich, (y, what) -> y.wordOf(5, what), MISSING, 4);
-        changesNothing("wordOf(2, 4)", Edges::rich, y -> y.wordOf(2, 4));
     }
 
-    public static void main(String[] args) {
+    static void all() {
         put();
         write();
         read();
@@ -254,6 +275,5 @@ public final class WordEdgesTest extends Edges {
         emptyTo();
         emptyRefused();
         wordOf();
-        end();
     }
 }

@@ -1,7 +1,23 @@
 /** The boundaries of promises 14 to 21: families, ticks, what would be, and counts. */
-public final class FamilyEdgesTest extends Edges {
+final class FamilyEdges extends Edges {
 
     private static void familyOf() {
+        says(14, "Returns something of a family.");
+        for (int each = 0; each <= 6; each++) {
+            int what = each;
+            for (int family = 0; family < 3; family++) {
+                int asked = family;
+                changesNothing("familyOf(" + family + ", " + what + ")", Edges::rich, y -> y.familyOf(asked, what));
+            }
+        }
+
+        says(14, "`family`: 0 to 2");
+        for (int family = 0; family <= 2; family++) {
+            due("chips of family " + family, Counted.of(0, 0, 1, 1, 2, 2).familyOf(family, 1), 3 << 2 * family);
+        }
+        refusedFor("family", Edges::rich, (y, family) -> y.familyOf(family, 1), INVALID, -1, 3, LEAST, MOST);
+        refusedFor("family without chips", Counted::new, (y, family) -> y.familyOf(family, 0), INVALID, -1, 3);
+
         says(14, "`what`: 0: its godfather; 1: its chips that live, as a set; 2: the words that wait in it; 3: the words"
             + " that are kept in it; 4: the set of rows that are guarded; 5: the words that are kept in bare rows; 6: the"
             + " first word of its queue");
@@ -39,7 +55,6 @@ public final class FamilyEdgesTest extends Edges {
 
         says(14, "Returns the number; INVALID_ARGUMENT if an argument is out of range; NOT_FOUND for 0 and 6 if there is"
             + " none.");
-        refusedFor("family", Edges::rich, (y, family) -> y.familyOf(family, 1), INVALID, -1, 3, LEAST, MOST);
         refusedFor("what", Edges::rich, (y, what) -> y.familyOf(0, what), INVALID, -1, 7, LEAST, MOST);
         refusedFor("what of an empty family", Edges::rich, (y, what) -> y.familyOf(2, what), INVALID, -1, 7);
         refusedFor("what of an empty family", Edges::rich, (y, what) -> y.familyOf(2, what), MISSING, 0, 6);
@@ -47,7 +62,6 @@ public final class FamilyEdgesTest extends Edges {
             (y, what) -> y.familyOf(0, what), MISSING, 0, 6);
         refused("no word waits", () -> waiting(0), y -> y.familyOf(0, 6), MISSING);
         refused("no word waits any more", () -> waiting(1, 1).ticking(1), y -> y.familyOf(0, 6), MISSING);
-        changesNothing("familyOf(0, 6)", Edges::rich, y -> y.familyOf(0, 6));
     }
 
     private static Counted at(int time) {
@@ -55,6 +69,17 @@ public final class FamilyEdgesTest extends Edges {
     }
 
     private static void tick() {
+        says(15, "Lets ticks go by.");
+        Counted goes = waiting(2, 0);
+        int time = 0;
+        for (int ticks : new int[] {1, 2, 3, 50, 99, 100}) {
+            goes.ticking(ticks);
+            time += ticks;
+            due("the time", goes.count(6), time);
+        }
+        due("ticks where no word waits", new Counted().ticking(100).count(6), 100);
+        due("ticks where no word can be raised", waiting(2).ticking(100).count(6), 100);
+
         says(15, "`ticks`: 1 to 100");
         change("tick(1)", Edges::rich, y -> y.tick(1), 1);
         change("tick(2)", Edges::rich, y -> y.tick(2), 2);
@@ -86,6 +111,8 @@ public final class FamilyEdgesTest extends Edges {
     }
 
     private static void loss() {
+        numberOfAChip(16, "`first`: number of a chip", (y, chip) -> y.loss(chip, -1));
+
         says(16, "`second`: number of another chip, or -1 for none");
         due("loss(2, -1)", rich().loss(2, -1), 2);
         due("loss(3, -1)", rich().loss(3, -1), 2);
@@ -99,7 +126,6 @@ public final class FamilyEdgesTest extends Edges {
 
         says(16, "Returns how many; INVALID_ARGUMENT if an argument is out of range or both are the same; NOT_POSSIBLE if"
             + " one of them is dead.");
-        noSuchChip("loss", (y, chip) -> y.loss(chip, -1));
         refusedFor("both", Edges::rich, (y, chip) -> y.loss(chip, chip), INVALID, -1, 0, 1, 2, 3, 4, 5, 6);
         refusedFor("first and a dead one", Edges::rich, (y, chip) -> y.loss(chip, 4), INVALID, -1, 4, 6);
         refusedFor("a dead one and second", Edges::rich, (y, chip) -> y.loss(4, chip), INVALID, -2, 4, 6);
@@ -125,6 +151,15 @@ public final class FamilyEdgesTest extends Edges {
     }
 
     private static void safe() {
+        says(17, "Returns the set of chips.");
+        for (int set = 0; set < 256; set++) {
+            Counted x = Counted.of(0, 1, 2, 0, 1, 2, 0, 1);
+            for (int chip = 0; chip < 8; chip++) {
+                x.fill(chip, 1 - (set >> chip & 1));
+            }
+            due("the chips without words", x.safe(), set);
+        }
+
         says(17, "Returns the chips that live by whose death, each by itself, no word would be lost.");
         due("no chips", new Counted().safe(), 0);
         due("eight without words", Counted.of(0, 0, 1, 1, 2, 2, 0, 1).safe(), 255);
@@ -232,6 +267,13 @@ public final class FamilyEdgesTest extends Edges {
     }
 
     private static void heir() {
+        says(20, "`family`: 0 to 2");
+        for (int family = 0; family <= 2; family++) {
+            due("heir(" + family + ")", Counted.of(2, 1, 0).heir(family), 2 - family);
+        }
+        refusedFor("family", Edges::rich, Counted::heir, INVALID, -1, 3, LEAST, MOST);
+        refusedFor("family without chips", Counted::new, Counted::heir, INVALID, -1, 3);
+
         says(20, "Finds the chip of a family that could be elected, or could be behind empty(), if that is possible now,"
             + " with the fewest words; of several the one with the lowest number.");
         due("one without words", Counted.of(1, 0).heir(0), 1);
@@ -253,7 +295,6 @@ public final class FamilyEdgesTest extends Edges {
 
         says(20, "Returns the number of the chip; INVALID_ARGUMENT; NOT_POSSIBLE if the family has a godfather; NOT_FOUND"
             + " if there is none.");
-        refusedFor("family", Edges::rich, Counted::heir, INVALID, -1, 3, LEAST, MOST);
         refusedFor("family with a godfather", Edges::rich, Counted::heir, IMPOSSIBLE, 0);
         refused("a family of its godfather alone", () -> Counted.of(0).electing(0), y -> y.heir(0), IMPOSSIBLE);
         refused("a family without chips", Edges::rich, y -> y.heir(2), MISSING);
@@ -264,6 +305,12 @@ public final class FamilyEdgesTest extends Edges {
     }
 
     private static void count() {
+        says(21, "Returns a number.");
+        for (int each = 0; each <= 11; each++) {
+            int what = each;
+            changesNothing("count(" + what + ")", Edges::rich, y -> y.count(what));
+        }
+
         says(21, "`what`: 0: chips; 1: chips that live; 2: words; 3: words that are kept; 4: words that wait; 5: words that"
             + " are lost; 6: the time; 7: words raised by ticks so far; 8: families that have a godfather; 9: places of all"
             + " chips; 10: states in the history; 11: the length of the text");
@@ -299,7 +346,7 @@ public final class FamilyEdgesTest extends Edges {
         refusedFor("what without chips", Counted::new, Counted::count, INVALID, -1, 12);
     }
 
-    public static void main(String[] args) {
+    static void all() {
         familyOf();
         tick();
         loss();
@@ -308,6 +355,5 @@ public final class FamilyEdgesTest extends Edges {
         calm();
         heir();
         count();
-        end();
     }
 }
